@@ -1,0 +1,1200 @@
+/** A join loom: tables of facts, questions over them, and answers woven name by name. */
+public final class JoinLoom {
+    public static final int NONE = -1;
+    public static final int NO = -2147483648;
+
+    private static final int TOO_MANY = -2;
+    private static final int MOST_TABLES = 8;
+    private static final int MOST_COLUMNS = 3;
+    private static final int MOST_ROWS = 40;
+    private static final int MOST_NAMES = 6;
+    private static final int MOST_PARTS = 10;
+    private static final int MOST_HAS = 5;
+    private static final int MOST_MEETINGS = 500;
+    private static final int MOST_NAMES_TO_ORDER = 4;
+
+    private static final int HAS = 0;
+    private static final int NOT = 1;
+    private static final int SAME = 2;
+    private static final int LESS = 3;
+
+    private final Table[] tables = new Table[MOST_TABLES];
+    private final Question question = new Question();
+    private final Woven woven = new Woven();
+    private final Answers kept = new Answers();
+    private final Difference difference = new Difference();
+    private final RingWalk ringWalk = new RingWalk();
+    private final Cover leastCover;
+    private final Weaver weaver;
+
+    public JoinLoom() {
+        for (int t = 0; t < MOST_TABLES; t++) {
+            tables[t] = new Table();
+        }
+        leastCover = new Cover(tables, question);
+        weaver = new Weaver(tables, question);
+    }
+
+    public boolean table(int t, int columns) {
+        if (t < 0 || t >= MOST_TABLES || columns < 1 || columns > MOST_COLUMNS || question.asksOf(t)) {
+            return false;
+        }
+        tables[t].open(columns);
+        return true;
+    }
+
+    public int put(int t, int a, int b, int c) {
+        Table table = tableAt(t);
+        return table == null ? NONE : table.insert(a, b, c);
+    }
+
+    public boolean drop(int t, int a, int b, int c) {
+        Table table = tableAt(t);
+        return table != null && table.remove(a, b, c);
+    }
+
+    public int rows(int t) {
+        Table table = tableAt(t);
+        return table == null ? NONE : table.size;
+    }
+
+    public int row(int t, int i, int c) {
+        Table table = tableAt(t);
+        return table == null ? 0 : table.cell(i, c);
+    }
+
+    public boolean ask(int n) {
+        if (n < 1 || n > MOST_NAMES) {
+            return false;
+        }
+        question.open(n);
+        return true;
+    }
+
+    public int part(int kind, int t) {
+        Table table = tableAt(t);
+        if ((kind != HAS && kind != NOT) || table == null || !question.hasRoomFor(kind)) {
+            return NONE;
+        }
+        return question.addFact(kind, t, table.columns);
+    }
+
+    public int name(int k) {
+        Part last = openPart();
+        return last == null || !question.hasName(k) ? NONE : last.addName(k);
+    }
+
+    public int value(int v) {
+        Part last = openPart();
+        return last == null ? NONE : last.addTold(v);
+    }
+
+    public int compare(int kind, int k, boolean byName, int v) {
+        boolean known = question.hasName(k) && (!byName || question.hasName(v));
+        if ((kind != SAME && kind != LESS) || !known || !question.hasRoomFor(kind)) {
+            return NONE;
+        }
+        return question.addComparison(kind, k, byName, v);
+    }
+
+    public boolean order(int i, int k) {
+        if (!question.hasName(i) || !question.hasName(k)) {
+            return false;
+        }
+        question.bringForward(i, k);
+        return true;
+    }
+
+    public int weave() {
+        if (!question.stands()) {
+            return NONE;
+        }
+        return weaver.weaveInto(woven) ? woven.answers.size : TOO_MANY;
+    }
+
+    public int answer(int i, int k) {
+        return woven.answers.at(i, k);
+    }
+
+    public int meetings(int i) {
+        return woven.metAt(i);
+    }
+
+    public int witness(int i, int p) {
+        return woven.witnessOf(i, p);
+    }
+
+    public long sum(int k, int what) {
+        Answers answers = woven.answers;
+        if (!answers.carries(k)) {
+            return 0;
+        }
+        switch (what) {
+            case 0:
+                return answers.total(k);
+            case 1:
+                return answers.numbers(k);
+            case 2:
+                return answers.greatest(k);
+            case 3:
+                return answers.least(k);
+            case 4:
+                return woven.differentValues(k);
+            default:
+                return 0;
+        }
+    }
+
+    public long group(int k, int v, int how, int j) {
+        Answers answers = woven.answers;
+        if (!answers.carries(k)) {
+            return 0;
+        }
+        if (how == 0) {
+            return answers.howManyWith(k, v);
+        }
+        return how == 1 && answers.carries(j) ? answers.totalWith(k, v, j) : 0;
+    }
+
+    public int keep() {
+        if (woven.answers.size == NONE) {
+            return NONE;
+        }
+        kept.copyFrom(woven.answers);
+        return kept.size;
+    }
+
+    public int delta(int what) {
+        return findDifference(what) ? difference.size : NONE;
+    }
+
+    public int change(int what, int i, int k) {
+        return findDifference(what) ? difference.at(i, k) : 0;
+    }
+
+    public long bound() {
+        if (!question.stands()) {
+            return NONE;
+        }
+        leastCover.find();
+        return leastCover.product;
+    }
+
+    public int cover(int p) {
+        if (!question.stands()) {
+            return NONE;
+        }
+        leastCover.find();
+        return leastCover.shareOf(p);
+    }
+
+    public int best() {
+        if (!question.stands() || question.names > MOST_NAMES_TO_ORDER) {
+            return NONE;
+        }
+        weaver.prepare();
+        weaver.meetEachSet();
+        return weaver.takeBestOrder();
+    }
+
+    public int rings(int t) {
+        Table table = tableAt(t);
+        if (table == null || table.columns < 2) {
+            return NONE;
+        }
+        return ringWalk.walk(table, Integer.MAX_VALUE);
+    }
+
+    public int ring(int t, int i, int k) {
+        Table table = tableAt(t);
+        if (table == null || table.columns < 2 || i < 0 || ringWalk.walk(table, i) <= i) {
+            return 0;
+        }
+        return ringWalk.corner(k);
+    }
+
+    public int count(int what) {
+        switch (what) {
+            case 0:
+                return question.names;
+            case 1:
+                return question.size;
+            case 2:
+                return woven.answers.size;
+            case 3:
+                return kept.size;
+            case 4:
+                return question.stands() ? 1 : 0;
+            default:
+                return question.nameInOrder(what);
+        }
+    }
+
+    /** Table t, or null if there is none such. */
+    private Table tableAt(int t) {
+        if (t < 0 || t >= MOST_TABLES || tables[t].columns == 0) {
+            return null;
+        }
+        return tables[t];
+    }
+
+    /** The last part if it is a HAS or NOT that lacks a place, or null. */
+    private Part openPart() {
+        Part last = question.lastPart();
+        return last == null || !last.isFact() || last.isFull() ? null : last;
+    }
+
+    /** Finds what came (what 0) or went (1) since the answers were kept; false if they can't be set side by side. */
+    private boolean findDifference(int what) {
+        Answers now = woven.answers;
+        if (kept.size == NONE || now.size == NONE || kept.names != now.names || what < 0 || what > 1) {
+            return false;
+        }
+        if (what == 0) {
+            difference.find(now, kept);
+        } else {
+            difference.find(kept, now);
+        }
+        return true;
+    }
+
+    /** Is a ordered ahead of b? One less wraps NO NUMBER round to the greatest int, behind all others. */
+    private static boolean ahead(int a, int b) {
+        return a - 1 < b - 1;
+    }
+
+    /** Below 0 if a is ordered ahead of b, 0 if they are alike, above 0 otherwise. */
+    private static int inOrder(int a, int b) {
+        return Integer.compare(a - 1, b - 1);
+    }
+
+    /** How many bits stand below the lowest one that is set. */
+    private static int lowestPlace(long bits) {
+        return Long.bitCount((bits & -bits) - 1);
+    }
+
+    /** The rows of one table, sorted; values that it has no columns for are held as 0. */
+    private static final class Table {
+        int columns;
+        int size;
+        private final int[] cells = new int[MOST_ROWS * MOST_COLUMNS];
+
+        void open(int columnCount) {
+            columns = columnCount;
+            size = 0;
+        }
+
+        int insert(int a, int b, int c) {
+            int second = columns > 1 ? b : 0;
+            int third = columns > 2 ? c : 0;
+            int place = placeFor(a, second, third);
+            if (isAt(place, a, second, third)) {
+                return 0;
+            }
+            if (size >= MOST_ROWS) {
+                return NONE;
+            }
+            int start = place * MOST_COLUMNS;
+            System.arraycopy(cells, start, cells, start + MOST_COLUMNS, (size - place) * MOST_COLUMNS);
+            cells[start] = a;
+            cells[start + 1] = second;
+            cells[start + 2] = third;
+            size++;
+            return 1;
+        }
+
+        boolean remove(int a, int b, int c) {
+            int second = columns > 1 ? b : 0;
+            int third = columns > 2 ? c : 0;
+            int place = placeFor(a, second, third);
+            if (!isAt(place, a, second, third)) {
+                return false;
+            }
+            size--;
+            int start = place * MOST_COLUMNS;
+            System.arraycopy(cells, start + MOST_COLUMNS, cells, start, (size - place) * MOST_COLUMNS);
+            return true;
+        }
+
+        int cell(int i, int c) {
+            if (i < 0 || i >= size || c < 0 || c >= columns) {
+                return 0;
+            }
+            return cells[i * MOST_COLUMNS + c];
+        }
+
+        /** Is row i the first one with its first two values? */
+        boolean beginsPair(int i) {
+            return i == 0 || cell(i, 0) != cell(i - 1, 0) || cell(i, 1) != cell(i - 1, 1);
+        }
+
+        boolean hasPair(int a, int b) {
+            for (int i = 0; i < size; i++) {
+                if (cell(i, 0) == a && cell(i, 1) == b) {
+                    return true;
+                }
+            }
+            return false;
+        }
+
+        private boolean isAt(int i, int a, int b, int c) {
+            return i < size && inOrderWith(i, a, b, c) == 0;
+        }
+
+        /** How many rows are ordered ahead of this one. */
+        private int placeFor(int a, int b, int c) {
+            int low = 0;
+            int high = size;
+            while (low < high) {
+                int middle = (low + high) >>> 1;
+                if (inOrderWith(middle, a, b, c) < 0) {
+                    low = middle + 1;
+                } else {
+                    high = middle;
+                }
+            }
+            return low;
+        }
+
+        private int inOrderWith(int i, int a, int b, int c) {
+            int start = i * MOST_COLUMNS;
+            int byFirst = inOrder(cells[start], a);
+            if (byFirst != 0) {
+                return byFirst;
+            }
+            int bySecond = inOrder(cells[start + 1], b);
+            return bySecond != 0 ? bySecond : inOrder(cells[start + 2], c);
+        }
+    }
+
+    /** A part of a question; the sides of a SAME or LESS are held as places. A place with a told value has name NONE. */
+    private static final class Part {
+        int kind;
+        int table;
+        int places;
+        int nameSet;
+        private int placesDue;
+        final int[] nameAt = new int[MOST_COLUMNS];
+        final int[] toldAt = new int[MOST_COLUMNS];
+
+        void open(int partKind, int tableNumber, int due) {
+            kind = partKind;
+            table = tableNumber;
+            places = 0;
+            nameSet = 0;
+            placesDue = due;
+        }
+
+        boolean isFact() {
+            return kind == HAS || kind == NOT;
+        }
+
+        boolean isFull() {
+            return places >= placesDue;
+        }
+
+        boolean carries(int k) {
+            return (nameSet >> k & 1) != 0;
+        }
+
+        int addName(int k) {
+            return addPlace(k, 0);
+        }
+
+        int addTold(int v) {
+            return addPlace(NONE, v);
+        }
+
+        int firstPlaceOf(int k) {
+            for (int c = 0; c < places; c++) {
+                if (nameAt[c] == k) {
+                    return c;
+                }
+            }
+            return NONE;
+        }
+
+        /** Has row i the told values, and one value wherever one name stands? */
+        boolean fits(Table rows, int i) {
+            for (int c = 0; c < places; c++) {
+                int due = nameAt[c] == NONE ? toldAt[c] : rows.cell(i, firstPlaceOf(nameAt[c]));
+                if (rows.cell(i, c) != due) {
+                    return false;
+                }
+            }
+            return true;
+        }
+
+        private int addPlace(int k, int v) {
+            if (places >= MOST_COLUMNS) {
+                return NONE;
+            }
+            nameAt[places] = k;
+            toldAt[places] = v;
+            if (k != NONE) {
+                nameSet |= 1 << k;
+            }
+            places++;
+            return places;
+        }
+    }
+
+    /** The names of a question, its parts, and THE ORDER. */
+    private static final class Question {
+        int names;
+        int size;
+        final Part[] parts = new Part[MOST_PARTS];
+        final int[] turns = new int[MOST_NAMES];
+        private int hasCount;
+
+        Question() {
+            for (int p = 0; p < MOST_PARTS; p++) {
+                parts[p] = new Part();
+            }
+        }
+
+        void open(int n) {
+            names = n;
+            size = 0;
+            hasCount = 0;
+            for (int i = 0; i < MOST_NAMES; i++) {
+                turns[i] = i;
+            }
+        }
+
+        boolean hasName(int k) {
+            return k >= 0 && k < names;
+        }
+
+        boolean asksOf(int t) {
+            for (int p = 0; p < size; p++) {
+                if (parts[p].isFact() && parts[p].table == t) {
+                    return true;
+                }
+            }
+            return false;
+        }
+
+        boolean hasRoomFor(int kind) {
+            return names > 0 && size < MOST_PARTS && (kind != HAS || hasCount < MOST_HAS);
+        }
+
+        /** The last part, or null if there is none. */
+        Part lastPart() {
+            return size == 0 ? null : parts[size - 1];
+        }
+
+        int addFact(int kind, int t, int columns) {
+            parts[size].open(kind, t, columns);
+            if (kind == HAS) {
+                hasCount++;
+            }
+            size++;
+            return size - 1;
+        }
+
+        int addComparison(int kind, int k, boolean byName, int v) {
+            Part part = parts[size];
+            part.open(kind, NONE, 2);
+            part.addName(k);
+            if (byName) {
+                part.addName(v);
+            } else {
+                part.addTold(v);
+            }
+            size++;
+            return size - 1;
+        }
+
+        boolean stands() {
+            int found = 0;
+            for (int p = 0; p < size; p++) {
+                if (!parts[p].isFull()) {
+                    return false;
+                }
+                if (parts[p].kind == HAS) {
+                    found |= parts[p].nameSet;
+                }
+            }
+            return names > 0 && found == (1 << names) - 1;
+        }
+
+        /** Name k and the i-th one change places. */
+        void bringForward(int i, int k) {
+            for (int j = 0; j < names; j++) {
+                if (turns[j] == k) {
+                    turns[j] = turns[i];
+                    turns[i] = k;
+                    return;
+                }
+            }
+        }
+
+        int nameInOrder(int what) {
+            return what < 10 || what - 10 >= names ? NONE : turns[what - 10];
+        }
+    }
+
+    /** Rows of values for names, in their order; size is NONE until there have been some. */
+    private static final class Answers {
+        int names;
+        int size = NONE;
+        private final int[] values = new int[MOST_MEETINGS * MOST_NAMES];
+
+        void open(int n, int howMany) {
+            names = n;
+            size = howMany;
+        }
+
+        void set(int i, int k, int v) {
+            if (i >= 0 && i < size && carries(k)) {
+                values[i * MOST_NAMES + k] = v;
+            }
+        }
+
+        int at(int i, int k) {
+            return i < 0 || i >= size || !carries(k) ? 0 : values[i * MOST_NAMES + k];
+        }
+
+        boolean carries(int k) {
+            return size != NONE && k >= 0 && k < names;
+        }
+
+        void copyFrom(Answers other) {
+            names = other.names;
+            size = other.size;
+            System.arraycopy(other.values, 0, values, 0, values.length);
+        }
+
+        /** How row i and the other's row j stand in order, as inOrder tells it. */
+        int inOrderWith(int i, Answers other, int j) {
+            for (int k = 0; k < names; k++) {
+                int byName = inOrder(at(i, k), other.at(j, k));
+                if (byName != 0) {
+                    return byName;
+                }
+            }
+            return 0;
+        }
+
+        long total(int k) {
+            long total = 0;
+            for (int i = 0; i < size; i++) {
+                total += numberOrZero(i, k);
+            }
+            return total;
+        }
+
+        long numbers(int k) {
+            return size - howManyWith(k, NO);
+        }
+
+        /** NO is the least int, so that it stays if there is no number. */
+        long greatest(int k) {
+            int greatest = NO;
+            for (int i = 0; i < size; i++) {
+                greatest = Math.max(greatest, at(i, k));
+            }
+            return greatest;
+        }
+
+        /** Of all values the one that is first in order: NO only if there is no number. */
+        long least(int k) {
+            int least = NO;
+            for (int i = 0; i < size; i++) {
+                if (ahead(at(i, k), least)) {
+                    least = at(i, k);
+                }
+            }
+            return least;
+        }
+
+        long howManyWith(int k, int v) {
+            int found = 0;
+            for (int i = 0; i < size; i++) {
+                if (at(i, k) == v) {
+                    found++;
+                }
+            }
+            return found;
+        }
+
+        long totalWith(int k, int v, int j) {
+            long total = 0;
+            for (int i = 0; i < size; i++) {
+                if (at(i, k) == v) {
+                    total += numberOrZero(i, j);
+                }
+            }
+            return total;
+        }
+
+        private int numberOrZero(int i, int k) {
+            int v = at(i, k);
+            return v == NO ? 0 : v;
+        }
+    }
+
+    /** What was woven last, with all that hangs on it. */
+    private static final class Woven {
+        final Answers answers = new Answers();
+        private int parts;
+        private final int[] met = new int[MOST_NAMES];
+        private final int[] witnesses = new int[MOST_MEETINGS * MOST_PARTS];
+        private final int[] different = new int[MOST_ROWS];
+
+        void open(int names, int partCount, int howMany) {
+            answers.open(names, howMany);
+            parts = partCount;
+        }
+
+        void setMet(int i, int howMany) {
+            if (answers.carries(i)) {
+                met[i] = howMany;
+            }
+        }
+
+        int metAt(int i) {
+            return answers.carries(i) ? met[i] : NONE;
+        }
+
+        void setWitness(int i, int p, int place) {
+            if (i >= 0 && i < answers.size && p >= 0 && p < parts) {
+                witnesses[i * MOST_PARTS + p] = place;
+            }
+        }
+
+        int witnessOf(int i, int p) {
+            return i < 0 || i >= answers.size || p < 0 || p >= parts ? NONE : witnesses[i * MOST_PARTS + p];
+        }
+
+        /** A name's values come from one column of one table, so there are never more of them than rows. */
+        int differentValues(int k) {
+            int found = 0;
+            for (int i = 0; i < answers.size; i++) {
+                int v = answers.at(i, k);
+                if (found < MOST_ROWS && !isAmong(v, found)) {
+                    different[found] = v;
+                    found++;
+                }
+            }
+            return found;
+        }
+
+        private boolean isAmong(int v, int found) {
+            for (int d = 0; d < found; d++) {
+                if (different[d] == v) {
+                    return true;
+                }
+            }
+            return false;
+        }
+    }
+
+    /** The answers that one list has and another has not. */
+    private static final class Difference {
+        int size;
+        private Answers from;
+        private final int[] places = new int[MOST_MEETINGS];
+
+        void find(Answers mine, Answers theirs) {
+            from = mine;
+            size = 0;
+            int j = 0;
+            for (int i = 0; i < mine.size && i < MOST_MEETINGS; i++) {
+                while (j < theirs.size && theirs.inOrderWith(j, mine, i) < 0) {
+                    j++;
+                }
+                if (j >= theirs.size || theirs.inOrderWith(j, mine, i) != 0) {
+                    places[size] = i;
+                    size++;
+                }
+            }
+        }
+
+        int at(int i, int k) {
+            return from == null || i < 0 || i >= size ? 0 : from.at(places[i], k);
+        }
+    }
+
+    /** Walks the rings of a table in their order and holds the one at which it stopped. */
+    private static final class RingWalk {
+        private int met;
+        private int a;
+        private int b;
+        private int c;
+
+        /** How many rings were met up to the wanted one; above its number if it was met. */
+        int walk(Table table, int wanted) {
+            met = 0;
+            for (int i = 0; i < table.size && met <= wanted; i++) {
+                if (table.beginsPair(i) && ahead(table.cell(i, 0), table.cell(i, 1))) {
+                    close(table, i, wanted);
+                }
+            }
+            return met;
+        }
+
+        int corner(int k) {
+            switch (k) {
+                case 0:
+                    return a;
+                case 1:
+                    return b;
+                case 2:
+                    return c;
+                default:
+                    return 0;
+            }
+        }
+
+        /** Meets the rings that row i begins. */
+        private void close(Table table, int i, int wanted) {
+            int first = table.cell(i, 0);
+            int second = table.cell(i, 1);
+            for (int j = 0; j < table.size && met <= wanted; j++) {
+                int third = table.cell(j, 1);
+                boolean leads = table.cell(j, 0) == second && third != second && ahead(first, third);
+                if (leads && table.beginsPair(j) && table.hasPair(third, first)) {
+                    met++;
+                    a = first;
+                    b = second;
+                    c = third;
+                }
+            }
+        }
+    }
+
+    /** THE BOUND and THE COVER of a question that stands. */
+    private static final class Cover {
+        long product;
+        private int carrierCount;
+        private final int[] carriers = new int[MOST_HAS];
+        private final int[] shares = new int[MOST_HAS];
+        private final Table[] tables;
+        private final Question question;
+
+        Cover(Table[] allTables, Question asked) {
+            tables = allTables;
+            question = asked;
+        }
+
+        /** Trials go by their shares, part by part, so that the first of the least products has the least shares. */
+        void find() {
+            int trials = gatherCarriers();
+            int leastTrial = 0;
+            product = NONE;
+            for (int trial = 0; trial < trials; trial++) {
+                takeTrial(trial);
+                if (coversAllNames()) {
+                    long found = productOfShares();
+                    if (product == NONE || found < product) {
+                        product = found;
+                        leastTrial = trial;
+                    }
+                }
+            }
+            takeTrial(leastTrial);
+        }
+
+        int shareOf(int p) {
+            for (int h = 0; h < carrierCount; h++) {
+                if (carriers[h] == p) {
+                    return shares[h];
+                }
+            }
+            return NONE;
+        }
+
+        /** Gathers every HAS that has a name; answers in how many ways shares can be given to them. */
+        private int gatherCarriers() {
+            int ways = 1;
+            carrierCount = 0;
+            for (int p = 0; p < question.size && carrierCount < MOST_HAS; p++) {
+                Part part = question.parts[p];
+                if (part.kind == HAS && part.nameSet != 0) {
+                    carriers[carrierCount] = p;
+                    carrierCount++;
+                    ways *= 3;
+                }
+            }
+            return ways;
+        }
+
+        private void takeTrial(int trial) {
+            int rest = trial;
+            for (int h = carrierCount - 1; h >= 0; h--) {
+                shares[h] = rest % 3;
+                rest /= 3;
+            }
+        }
+
+        private boolean coversAllNames() {
+            for (int k = 0; k < question.names; k++) {
+                int halves = 0;
+                for (int h = 0; h < carrierCount; h++) {
+                    if (question.parts[carriers[h]].carries(k)) {
+                        halves += shares[h];
+                    }
+                }
+                if (halves < 2) {
+                    return false;
+                }
+            }
+            return true;
+        }
+
+        private long productOfShares() {
+            long found = 1;
+            for (int h = 0; h < carrierCount; h++) {
+                Part part = question.parts[carriers[h]];
+                for (int half = 0; half < shares[h]; half++) {
+                    found *= tables[part.table].size;
+                }
+            }
+            return found;
+        }
+    }
+
+    /**
+     * Weaves meetings name by name. A name's values are numbered in their order, and a meeting is one long: six bits
+     * a name with its value's number, name 0 highest, so that longs are ordered as answers are. The rows of a table
+     * that agree with a meeting are one long too, a bit a row.
+     */
+    private static final class Weaver {
+        private static final int BITS = 6;
+        private static final int SPOTS = 1 << BITS;
+        private static final int SETS = 1 << MOST_NAMES_TO_ORDER;
+
+        private final Table[] tables;
+        private final Question question;
+        private final int[] domainSize = new int[MOST_NAMES];
+        private final int[][] domain = new int[MOST_NAMES][SPOTS];
+        private final long[] fitting = new long[MOST_PARTS];
+        private final long[][] rowsWith = new long[MOST_PARTS * MOST_NAMES][SPOTS];
+        private final int[][] spotOf = new int[MOST_PARTS * MOST_NAMES][SPOTS];
+        private final int[] met = new int[SETS];
+        private final long[][] slots = new long[SETS][MOST_MEETINGS];
+        private final int[] spotNow = new int[MOST_NAMES];
+        private final int[] valueNow = new int[MOST_NAMES];
+        private final long[] agreeing = new long[MOST_PARTS];
+
+        Weaver(Table[] allTables, Question asked) {
+            tables = allTables;
+            question = asked;
+        }
+
+        /** False if there are too many meetings: then what was woven before stays. */
+        boolean weaveInto(Woven woven) {
+            prepare();
+            int seen = 0;
+            for (int i = 0; i < question.names; i++) {
+                int name = question.turns[i];
+                if (!extend(i, seen, name, i + 1)) {
+                    return false;
+                }
+                seen |= 1 << name;
+            }
+            sort(slots[question.names], met[question.names]);
+            tell(woven);
+            return true;
+        }
+
+        /** Finds what hangs on the tables and parts alone, and the one meeting of no names, if there is one. */
+        void prepare() {
+            boolean namelessHold = true;
+            for (int p = 0; p < question.size; p++) {
+                Part part = question.parts[p];
+                fitting[p] = fittingRows(part);
+                if (part.isFact() && part.nameSet == 0) {
+                    namelessHold = namelessHold && (fitting[p] != 0) == (part.kind == HAS);
+                }
+            }
+            for (int k = 0; k < question.names; k++) {
+                gatherDomain(k);
+                for (int p = 0; p < question.size; p++) {
+                    gatherRowsWith(p, k);
+                }
+            }
+            slots[0][0] = 0;
+            met[0] = namelessHold ? 1 : 0;
+        }
+
+        /** Meetings hang on which names come first, not on their order: each set of names is met once, in its slot. */
+        void meetEachSet() {
+            int sets = Math.min(SETS, 1 << question.names);
+            for (int set = 1; set < sets; set++) {
+                met[set] = TOO_MANY;
+                boolean tried = false;
+                for (int k = 0; k < question.names && !tried; k++) {
+                    int before = set & ~(1 << k);
+                    if (before != set && met[before] != TOO_MANY) {
+                        tried = true;
+                        extend(before, before, k, set);
+                    }
+                }
+            }
+        }
+
+        /** How many meetings the best order has, which becomes the question's; TOO_MANY if there is none. */
+        int takeBestOrder() {
+            int fewest = TOO_MANY;
+            int bestCode = 0;
+            int codes = 1 << 2 * MOST_NAMES_TO_ORDER;
+            for (int code = 0; code < codes; code++) {
+                int together = meetingsTogether(code);
+                if (together != TOO_MANY && (fewest == TOO_MANY || together < fewest)) {
+                    fewest = together;
+                    bestCode = code;
+                }
+            }
+            for (int i = 0; fewest != TOO_MANY && i < question.names; i++) {
+                question.turns[i] = codedName(bestCode, i);
+            }
+            return fewest;
+        }
+
+        private int meetingsTogether(int code) {
+            int together = 0;
+            int seen = 0;
+            for (int i = 0; i < question.names; i++) {
+                int name = codedName(code, i);
+                int more = seen | 1 << name;
+                if (name >= question.names || more == seen || met[more] == TOO_MANY) {
+                    return TOO_MANY;
+                }
+                seen = more;
+                together += met[seen];
+            }
+            return together;
+        }
+
+        /** A code has the names of an order in two bits each, the first name highest: codes go up as orders do. */
+        private static int codedName(int code, int i) {
+            return code >> 2 * (MOST_NAMES_TO_ORDER - 1 - i) & 3;
+        }
+
+        private long fittingRows(Part part) {
+            long rows = 0;
+            if (part.isFact()) {
+                Table table = tables[part.table];
+                for (int i = 0; i < table.size; i++) {
+                    if (part.fits(table, i)) {
+                        rows |= 1L << i;
+                    }
+                }
+            }
+            return rows;
+        }
+
+        /** The values that name k can have by the first HAS of it, in their order. */
+        private void gatherDomain(int k) {
+            domainSize[k] = 0;
+            for (int p = 0; p < question.size; p++) {
+                Part part = question.parts[p];
+                if (part.kind == HAS && part.carries(k)) {
+                    Table table = tables[part.table];
+                    int place = part.firstPlaceOf(k);
+                    for (int i = 0; i < table.size; i++) {
+                        if ((fitting[p] >> i & 1) != 0) {
+                            addToDomain(k, table.cell(i, place));
+                        }
+                    }
+                    return;
+                }
+            }
+        }
+
+        private void addToDomain(int k, int v) {
+            int[] values = domain[k];
+            int size = domainSize[k];
+            int spot = spotFor(k, v);
+            if (size >= MOST_ROWS || (spot < size && values[spot] == v)) {
+                return;
+            }
+            System.arraycopy(values, spot, values, spot + 1, size - spot);
+            values[spot] = v;
+            domainSize[k] = size + 1;
+        }
+
+        /** How many of name k's values are ordered ahead of v. */
+        private int spotFor(int k, int v) {
+            int low = 0;
+            int high = domainSize[k];
+            while (low < high) {
+                int middle = (low + high) >>> 1;
+                if (ahead(domain[k][middle], v)) {
+                    low = middle + 1;
+                } else {
+                    high = middle;
+                }
+            }
+            return low;
+        }
+
+        /** Which rows part p has for each value of name k, and which value each row has. */
+        private void gatherRowsWith(int p, int k) {
+            Part part = question.parts[p];
+            if (!part.isFact() || !part.carries(k)) {
+                return;
+            }
+            long[] rows = rowsWith[pair(p, k)];
+            int[] spots = spotOf[pair(p, k)];
+            for (int spot = 0; spot < domainSize[k]; spot++) {
+                rows[spot] = 0;
+            }
+            Table table = tables[part.table];
+            int place = part.firstPlaceOf(k);
+            for (int i = 0; i < table.size; i++) {
+                int v = table.cell(i, place);
+                int spot = spotFor(k, v);
+                boolean known = (fitting[p] >> i & 1) != 0 && spot < domainSize[k] && domain[k][spot] == v;
+                spots[i] = known ? spot : NONE;
+                if (known) {
+                    rows[spot] |= 1L << i;
+                }
+            }
+        }
+
+        /** Meets the names seen and one more; false, and TOO_MANY in its slot, if these meetings are too many. */
+        private boolean extend(int from, int seen, int name, int to) {
+            met[to] = 0;
+            for (int i = 0; i < met[from]; i++) {
+                long meeting = slots[from][i];
+                agree(meeting, seen);
+                if (!extendOne(meeting, seen | 1 << name, name, to)) {
+                    met[to] = TOO_MANY;
+                    return false;
+                }
+            }
+            return true;
+        }
+
+        /** Tries the values of the HAS that has the fewest rows left; those that name's first HAS lacks have no spot. */
+        private boolean extendOne(long meeting, int seen, int name, int to) {
+            int p = narrowest(name);
+            long left = p == NONE ? 0 : agreeing[p];
+            for (int tries = 0; tries < MOST_ROWS && left != 0; tries++) {
+                int spot = spotOf[pair(p, name)][lowestPlace(left)];
+                left &= left - 1;
+                if (spot != NONE) {
+                    left &= ~rowsWith[pair(p, name)][spot];
+                    spotNow[name] = spot;
+                    valueNow[name] = domain[name][spot];
+                    if (meets(seen, name)) {
+                        if (met[to] >= MOST_MEETINGS) {
+                            return false;
+                        }
+                        slots[to][met[to]] = meeting | (long) spot << shift(name);
+                        met[to]++;
+                    }
+                }
+            }
+            return true;
+        }
+
+        /** The HAS of this name with the fewest rows that agree. */
+        private int narrowest(int name) {
+            int narrowest = NONE;
+            int fewest = MOST_ROWS + 1;
+            for (int p = 0; p < question.size; p++) {
+                Part part = question.parts[p];
+                if (part.kind == HAS && part.carries(name) && Long.bitCount(agreeing[p]) < fewest) {
+                    narrowest = p;
+                    fewest = Long.bitCount(agreeing[p]);
+                }
+            }
+            return narrowest;
+        }
+
+        /** Is each part that has the newest name, and of which enough names are seen, true with the values now? */
+        private boolean meets(int seen, int name) {
+            for (int p = 0; p < question.size; p++) {
+                Part part = question.parts[p];
+                if (part.carries(name) && !holds(p, part, seen, name)) {
+                    return false;
+                }
+            }
+            return true;
+        }
+
+        private boolean holds(int p, Part part, int seen, int name) {
+            boolean whole = (part.nameSet & ~seen) == 0;
+            switch (part.kind) {
+                case HAS:
+                    return (agreeing[p] & rowsWith[pair(p, name)][spotNow[name]]) != 0;
+                case NOT:
+                    return !whole || (agreeing[p] & rowsWith[pair(p, name)][spotNow[name]]) == 0;
+                case SAME:
+                    return !whole || side(part, 0) == side(part, 1);
+                default:
+                    return !whole || ahead(side(part, 0), side(part, 1));
+            }
+        }
+
+        /** The value on one side of a SAME or LESS. */
+        private int side(Part part, int c) {
+            int k = part.nameAt[c];
+            return k == NONE ? part.toldAt[c] : valueNow[k];
+        }
+
+        /** Takes a meeting's values, and each HAS's and NOT's rows that agree with those of the names seen. */
+        private void agree(long meeting, int seen) {
+            for (int k = 0; k < question.names; k++) {
+                spotNow[k] = (int) (meeting >>> shift(k)) & SPOTS - 1;
+                valueNow[k] = domain[k][spotNow[k]];
+            }
+            for (int p = 0; p < question.size; p++) {
+                Part part = question.parts[p];
+                long rows = fitting[p];
+                for (int c = 0; part.isFact() && c < part.places; c++) {
+                    int k = part.nameAt[c];
+                    if (k != NONE && (seen >> k & 1) != 0) {
+                        rows &= rowsWith[pair(p, k)][spotNow[k]];
+                    }
+                }
+                agreeing[p] = rows;
+            }
+        }
+
+        private void tell(Woven woven) {
+            int names = question.names;
+            woven.open(names, question.size, met[names]);
+            for (int i = 0; i < names; i++) {
+                woven.setMet(i, met[i + 1]);
+            }
+            for (int i = 0; i < met[names]; i++) {
+                agree(slots[names][i], (1 << names) - 1);
+                for (int k = 0; k < names; k++) {
+                    woven.answers.set(i, k, valueNow[k]);
+                }
+                for (int p = 0; p < question.size; p++) {
+                    woven.setWitness(i, p, question.parts[p].kind == HAS ? lowestPlace(agreeing[p]) : NONE);
+                }
+            }
+        }
+
+        /** Sorts the first ones of a slot, by steps that grow short. */
+        private static void sort(long[] meetings, int howMany) {
+            for (int step = MOST_MEETINGS / 2; step > 0; step /= 2) {
+                for (int i = step; i < howMany; i++) {
+                    long moved = meetings[i];
+                    int j = i;
+                    while (j >= step && meetings[j - step] > moved) {
+                        meetings[j] = meetings[j - step];
+                        j -= step;
+                    }
+                    meetings[j] = moved;
+                }
+            }
+        }
+
+        private static int shift(int k) {
+            return (MOST_NAMES - 1 - k) * BITS;
+        }
+
+        private static int pair(int p, int k) {
+            return p * MOST_NAMES + k;
+        }
+    }
+}
