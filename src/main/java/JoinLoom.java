@@ -12,6 +12,8 @@ public final class JoinLoom {
     private static final int MOST_HAS = 5;
     private static final int MOST_MEETINGS = 500;
     private static final int MOST_NAMES_TO_ORDER = 4;
+    private static final int SPOT_BITS = 6;
+    private static final int SPOTS = 1 << SPOT_BITS;
 
     private static final int HAS = 0;
     private static final int NOT = 1;
@@ -109,6 +111,7 @@ public final class JoinLoom {
         if (!question.stands()) {
             return NONE;
         }
+        weaver.prepare();
         return weaver.weaveInto(woven) ? woven.answers.size : TOO_MANY;
     }
 
@@ -139,7 +142,7 @@ public final class JoinLoom {
             case 3:
                 return answers.least(k);
             case 4:
-                return woven.differentValues(k);
+                return answers.differentValues(k);
             default:
                 return 0;
         }
@@ -268,6 +271,18 @@ public final class JoinLoom {
         return Integer.compare(a - 1, b - 1);
     }
 
+    /**
+     * A name's values are numbered in their order, and a meeting is one long: six bits a name with its value's number
+     * (its spot), name 0 highest, so that longs are ordered as answers are.
+     */
+    private static int spotIn(long meeting, int k) {
+        return (int) (meeting >>> shift(k)) & SPOTS - 1;
+    }
+
+    private static int shift(int k) {
+        return (MOST_NAMES - 1 - k) * SPOT_BITS;
+    }
+
     /** How many bits stand below the lowest one that is set. */
     private static int lowestPlace(long bits) {
         return Long.bitCount((bits & -bits) - 1);
@@ -367,7 +382,7 @@ public final class JoinLoom {
         }
     }
 
-    /** A part of a question; the sides of a SAME or LESS are held as places. A place with a told value has name NONE. */
+    /** A part of a question; the sides of a SAME or LESS are places too. A place with a told value has name NONE. */
     private static final class Part {
         int kind;
         int table;
@@ -376,6 +391,7 @@ public final class JoinLoom {
         private int placesDue;
         final int[] nameAt = new int[MOST_COLUMNS];
         final int[] toldAt = new int[MOST_COLUMNS];
+        final int[] placeOf = new int[MOST_NAMES];
 
         void open(int partKind, int tableNumber, int due) {
             kind = partKind;
@@ -398,6 +414,10 @@ public final class JoinLoom {
         }
 
         int addName(int k) {
+            if (!carries(k)) {
+                placeOf[k] = places;
+                nameSet |= 1 << k;
+            }
             return addPlace(k, 0);
         }
 
@@ -405,19 +425,10 @@ public final class JoinLoom {
             return addPlace(NONE, v);
         }
 
-        int firstPlaceOf(int k) {
-            for (int c = 0; c < places; c++) {
-                if (nameAt[c] == k) {
-                    return c;
-                }
-            }
-            return NONE;
-        }
-
         /** Has row i the told values, and one value wherever one name stands? */
         boolean fits(Table rows, int i) {
             for (int c = 0; c < places; c++) {
-                int due = nameAt[c] == NONE ? toldAt[c] : rows.cell(i, firstPlaceOf(nameAt[c]));
+                int due = nameAt[c] == NONE ? toldAt[c] : rows.cell(i, placeOf[nameAt[c]]);
                 if (rows.cell(i, c) != due) {
                     return false;
                 }
@@ -431,9 +442,6 @@ public final class JoinLoom {
             }
             nameAt[places] = k;
             toldAt[places] = v;
-            if (k != NONE) {
-                nameSet |= 1 << k;
-            }
             places++;
             return places;
         }
@@ -535,35 +543,32 @@ public final class JoinLoom {
         }
     }
 
-    /** Rows of values for names, in their order; size is NONE until there have been some. */
+    /** Meetings of all names in their order, and the values that they tell of; size is NONE until there are some. */
     private static final class Answers {
         int names;
         int size = NONE;
-        private final int[] values = new int[MOST_MEETINGS * MOST_NAMES];
+        private final int[][] domain = new int[MOST_NAMES][SPOTS];
+        private final long[] meetings = new long[MOST_MEETINGS];
 
-        void open(int n, int howMany) {
+        void take(int n, int howMany, int[][] values, long[] found) {
             names = n;
             size = howMany;
+            for (int k = 0; k < MOST_NAMES; k++) {
+                System.arraycopy(values[k], 0, domain[k], 0, SPOTS);
+            }
+            System.arraycopy(found, 0, meetings, 0, MOST_MEETINGS);
         }
 
-        void set(int i, int k, int v) {
-            if (i >= 0 && i < size && carries(k)) {
-                values[i * MOST_NAMES + k] = v;
-            }
+        void copyFrom(Answers other) {
+            take(other.names, other.size, other.domain, other.meetings);
         }
 
         int at(int i, int k) {
-            return i < 0 || i >= size || !carries(k) ? 0 : values[i * MOST_NAMES + k];
+            return i < 0 || i >= size || !carries(k) ? 0 : domain[k][spotIn(meetings[i], k)];
         }
 
         boolean carries(int k) {
             return size != NONE && k >= 0 && k < names;
-        }
-
-        void copyFrom(Answers other) {
-            names = other.names;
-            size = other.size;
-            System.arraycopy(other.values, 0, values, 0, values.length);
         }
 
         /** How row i and the other's row j stand in order, as inOrder tells it. */
@@ -629,23 +634,36 @@ public final class JoinLoom {
             return total;
         }
 
+        long differentValues(int k) {
+            long spots = 0;
+            for (int i = 0; i < size; i++) {
+                spots |= 1L << spotIn(meetings[i], k);
+            }
+            return Long.bitCount(spots);
+        }
+
         private int numberOrZero(int i, int k) {
             int v = at(i, k);
             return v == NO ? 0 : v;
         }
     }
 
-    /** What was woven last, with all that hangs on it. */
+    /** What was woven last, with all that hangs on it. The rows by which an answer is true are six bits a HAS. */
     private static final class Woven {
         final Answers answers = new Answers();
         private int parts;
+        private final int[] hasNumber = new int[MOST_PARTS];
         private final int[] met = new int[MOST_NAMES];
-        private final int[] witnesses = new int[MOST_MEETINGS * MOST_PARTS];
-        private final int[] different = new int[MOST_ROWS];
+        private final int[] witnesses = new int[MOST_MEETINGS];
 
-        void open(int names, int partCount, int howMany) {
-            answers.open(names, howMany);
-            parts = partCount;
+        void takeParts(Question question) {
+            int found = 0;
+            parts = question.size;
+            for (int p = 0; p < parts; p++) {
+                boolean has = question.parts[p].kind == HAS;
+                hasNumber[p] = has ? found : NONE;
+                found += has ? 1 : 0;
+            }
         }
 
         void setMet(int i, int howMany) {
@@ -658,36 +676,17 @@ public final class JoinLoom {
             return answers.carries(i) ? met[i] : NONE;
         }
 
-        void setWitness(int i, int p, int place) {
-            if (i >= 0 && i < answers.size && p >= 0 && p < parts) {
-                witnesses[i * MOST_PARTS + p] = place;
+        void setWitnesses(int i, int places) {
+            if (i >= 0 && i < answers.size) {
+                witnesses[i] = places;
             }
         }
 
         int witnessOf(int i, int p) {
-            return i < 0 || i >= answers.size || p < 0 || p >= parts ? NONE : witnesses[i * MOST_PARTS + p];
-        }
-
-        /** A name's values come from one column of one table, so there are never more of them than rows. */
-        int differentValues(int k) {
-            int found = 0;
-            for (int i = 0; i < answers.size; i++) {
-                int v = answers.at(i, k);
-                if (found < MOST_ROWS && !isAmong(v, found)) {
-                    different[found] = v;
-                    found++;
-                }
+            if (i < 0 || i >= answers.size || p < 0 || p >= parts || hasNumber[p] == NONE) {
+                return NONE;
             }
-            return found;
-        }
-
-        private boolean isAmong(int v, int found) {
-            for (int d = 0; d < found; d++) {
-                if (different[d] == v) {
-                    return true;
-                }
-            }
-            return false;
+            return witnesses[i] >> hasNumber[p] * SPOT_BITS & SPOTS - 1;
         }
     }
 
@@ -856,14 +855,8 @@ public final class JoinLoom {
         }
     }
 
-    /**
-     * Weaves meetings name by name. A name's values are numbered in their order, and a meeting is one long: six bits
-     * a name with its value's number, name 0 highest, so that longs are ordered as answers are. The rows of a table
-     * that agree with a meeting are one long too, a bit a row.
-     */
+    /** Weaves meetings name by name. The rows of a table that agree with a meeting are one long, a bit a row. */
     private static final class Weaver {
-        private static final int BITS = 6;
-        private static final int SPOTS = 1 << BITS;
         private static final int SETS = 1 << MOST_NAMES_TO_ORDER;
 
         private final Table[] tables;
@@ -871,36 +864,23 @@ public final class JoinLoom {
         private final int[] domainSize = new int[MOST_NAMES];
         private final int[][] domain = new int[MOST_NAMES][SPOTS];
         private final long[] fitting = new long[MOST_PARTS];
-        private final long[][] rowsWith = new long[MOST_PARTS * MOST_NAMES][SPOTS];
-        private final int[][] spotOf = new int[MOST_PARTS * MOST_NAMES][SPOTS];
-        private final int[] met = new int[SETS];
-        private final long[][] slots = new long[SETS][MOST_MEETINGS];
+        private final long[][] rowsWith = new long[MOST_PARTS * MOST_COLUMNS][SPOTS];
+        private final int[][] spotOf = new int[MOST_PARTS * MOST_COLUMNS][SPOTS];
+        private final int[] met = new int[MOST_NAMES + 1];
+        private final long[][] slots = new long[2][MOST_MEETINGS];
         private final int[] spotNow = new int[MOST_NAMES];
         private final int[] valueNow = new int[MOST_NAMES];
         private final long[] agreeing = new long[MOST_PARTS];
+        private final int[] setMet = new int[SETS];
+        private final int[] lastOf = new int[SETS];
+        private final int[] setTurns = new int[MOST_NAMES_TO_ORDER];
 
         Weaver(Table[] allTables, Question asked) {
             tables = allTables;
             question = asked;
         }
 
-        /** False if there are too many meetings: then what was woven before stays. */
-        boolean weaveInto(Woven woven) {
-            prepare();
-            int seen = 0;
-            for (int i = 0; i < question.names; i++) {
-                int name = question.turns[i];
-                if (!extend(i, seen, name, i + 1)) {
-                    return false;
-                }
-                seen |= 1 << name;
-            }
-            sort(slots[question.names], met[question.names]);
-            tell(woven);
-            return true;
-        }
-
-        /** Finds what hangs on the tables and parts alone, and the one meeting of no names, if there is one. */
+        /** Finds what hangs on the tables and parts alone, and whether there is a meeting of no names. */
         void prepare() {
             boolean namelessHold = true;
             for (int p = 0; p < question.size; p++) {
@@ -912,27 +892,45 @@ public final class JoinLoom {
             }
             for (int k = 0; k < question.names; k++) {
                 gatherDomain(k);
-                for (int p = 0; p < question.size; p++) {
-                    gatherRowsWith(p, k);
+            }
+            for (int p = 0; p < question.size; p++) {
+                for (int c = 0; question.parts[p].isFact() && c < question.parts[p].places; c++) {
+                    gatherRowsWith(p, c);
                 }
             }
-            slots[0][0] = 0;
             met[0] = namelessHold ? 1 : 0;
         }
 
-        /** Meetings hang on which names come first, not on their order: each set of names is met once, in its slot. */
+        /** False if there are too many meetings: then what was woven before stays. */
+        boolean weaveInto(Woven woven) {
+            int names = question.names;
+            if (meetAlong(question.turns, names) == TOO_MANY) {
+                return false;
+            }
+            long[] found = slots[names & 1];
+            sort(found, met[names]);
+            woven.answers.take(names, met[names], domain, found);
+            woven.takeParts(question);
+            for (int i = 0; i < names; i++) {
+                woven.setMet(i, met[i + 1]);
+            }
+            for (int i = 0; i < met[names]; i++) {
+                agree(found[i], (1 << names) - 1);
+                woven.setWitnesses(i, witnessesNow());
+            }
+            return true;
+        }
+
+        /**
+         * How many meetings there are hangs on which names come first, not on their order: each set of names is met
+         * once, in some order in which no meetings on the way are too many.
+         */
         void meetEachSet() {
             int sets = Math.min(SETS, 1 << question.names);
+            setMet[0] = met[0];
             for (int set = 1; set < sets; set++) {
-                met[set] = TOO_MANY;
-                boolean tried = false;
-                for (int k = 0; k < question.names && !tried; k++) {
-                    int before = set & ~(1 << k);
-                    if (before != set && met[before] != TOO_MANY) {
-                        tried = true;
-                        extend(before, before, k, set);
-                    }
-                }
+                lastOf[set] = lastNameFor(set);
+                setMet[set] = lastOf[set] == NONE ? TOO_MANY : meetAlong(setTurns, lineUp(set));
             }
         }
 
@@ -960,11 +958,11 @@ public final class JoinLoom {
             for (int i = 0; i < question.names; i++) {
                 int name = codedName(code, i);
                 int more = seen | 1 << name;
-                if (name >= question.names || more == seen || met[more] == TOO_MANY) {
+                if (name >= question.names || more == seen || setMet[more] == TOO_MANY) {
                     return TOO_MANY;
                 }
                 seen = more;
-                together += met[seen];
+                together += setMet[seen];
             }
             return together;
         }
@@ -972,6 +970,28 @@ public final class JoinLoom {
         /** A code has the names of an order in two bits each, the first name highest: codes go up as orders do. */
         private static int codedName(int code, int i) {
             return code >> 2 * (MOST_NAMES_TO_ORDER - 1 - i) & 3;
+        }
+
+        /** A name of the set without which its meetings are not too many, or NONE. */
+        private int lastNameFor(int set) {
+            for (int k = 0; k < question.names; k++) {
+                int before = set & ~(1 << k);
+                if (before != set && setMet[before] != TOO_MANY) {
+                    return k;
+                }
+            }
+            return NONE;
+        }
+
+        /** Lines up the names of a set, each behind those without which its own set is not too many. */
+        private int lineUp(int set) {
+            int howMany = Integer.bitCount(set);
+            int rest = set;
+            for (int i = howMany - 1; i >= 0; i--) {
+                setTurns[i] = lastOf[rest];
+                rest &= ~(1 << lastOf[rest]);
+            }
+            return howMany;
         }
 
         private long fittingRows(Part part) {
@@ -994,10 +1014,9 @@ public final class JoinLoom {
                 Part part = question.parts[p];
                 if (part.kind == HAS && part.carries(k)) {
                     Table table = tables[part.table];
-                    int place = part.firstPlaceOf(k);
                     for (int i = 0; i < table.size; i++) {
                         if ((fitting[p] >> i & 1) != 0) {
-                            addToDomain(k, table.cell(i, place));
+                            addToDomain(k, table.cell(i, part.placeOf[k]));
                         }
                     }
                     return;
@@ -1032,21 +1051,21 @@ public final class JoinLoom {
             return low;
         }
 
-        /** Which rows part p has for each value of name k, and which value each row has. */
-        private void gatherRowsWith(int p, int k) {
+        /** Which rows part p has for each value of the name in place c, and which value each row has, NONE if none. */
+        private void gatherRowsWith(int p, int c) {
             Part part = question.parts[p];
-            if (!part.isFact() || !part.carries(k)) {
+            int k = part.nameAt[c];
+            if (k == NONE) {
                 return;
             }
-            long[] rows = rowsWith[pair(p, k)];
-            int[] spots = spotOf[pair(p, k)];
+            long[] rows = rowsWith[pair(p, c)];
+            int[] spots = spotOf[pair(p, c)];
             for (int spot = 0; spot < domainSize[k]; spot++) {
                 rows[spot] = 0;
             }
             Table table = tables[part.table];
-            int place = part.firstPlaceOf(k);
             for (int i = 0; i < table.size; i++) {
-                int v = table.cell(i, place);
+                int v = table.cell(i, c);
                 int spot = spotFor(k, v);
                 boolean known = (fitting[p] >> i & 1) != 0 && spot < domainSize[k] && domain[k][spot] == v;
                 spots[i] = known ? spot : NONE;
@@ -1056,44 +1075,60 @@ public final class JoinLoom {
             }
         }
 
-        /** Meets the names seen and one more; false, and TOO_MANY in its slot, if these meetings are too many. */
-        private boolean extend(int from, int seen, int name, int to) {
-            met[to] = 0;
-            for (int i = 0; i < met[from]; i++) {
-                long meeting = slots[from][i];
+        /** Meets so many names of an order, one after another; how many meetings the last has, or TOO_MANY. */
+        private int meetAlong(int[] turns, int howMany) {
+            int seen = 0;
+            slots[0][0] = 0;
+            for (int i = 0; i < howMany; i++) {
+                if (!extend(i, seen, turns[i])) {
+                    return TOO_MANY;
+                }
+                seen |= 1 << turns[i];
+            }
+            return met[howMany];
+        }
+
+        /** Meets the names seen, i of them, and one more, from one slot into the other; false if it is too many. */
+        private boolean extend(int i, int seen, int name) {
+            met[i + 1] = 0;
+            for (int j = 0; j < met[i]; j++) {
+                long meeting = slots[i & 1][j];
                 agree(meeting, seen);
-                if (!extendOne(meeting, seen | 1 << name, name, to)) {
-                    met[to] = TOO_MANY;
+                if (!extendOne(i + 1, meeting, seen | 1 << name, name)) {
                     return false;
                 }
             }
             return true;
         }
 
-        /** Tries the values of the HAS that has the fewest rows left; those that name's first HAS lacks have no spot. */
-        private boolean extendOne(long meeting, int seen, int name, int to) {
+        /** Tries the values in the HAS that has the fewest rows left; those that another HAS lacks may have no spot. */
+        private boolean extendOne(int i, long meeting, int seen, int name) {
             int p = narrowest(name);
-            long left = p == NONE ? 0 : agreeing[p];
+            if (p == NONE) {
+                return true;
+            }
+            int pair = pair(p, question.parts[p].placeOf[name]);
+            long left = agreeing[p];
             for (int tries = 0; tries < MOST_ROWS && left != 0; tries++) {
-                int spot = spotOf[pair(p, name)][lowestPlace(left)];
+                int spot = spotOf[pair][lowestPlace(left)];
                 left &= left - 1;
                 if (spot != NONE) {
-                    left &= ~rowsWith[pair(p, name)][spot];
+                    left &= ~rowsWith[pair][spot];
                     spotNow[name] = spot;
                     valueNow[name] = domain[name][spot];
                     if (meets(seen, name)) {
-                        if (met[to] >= MOST_MEETINGS) {
+                        if (met[i] >= MOST_MEETINGS) {
                             return false;
                         }
-                        slots[to][met[to]] = meeting | (long) spot << shift(name);
-                        met[to]++;
+                        slots[i & 1][met[i]] = meeting | (long) spot << shift(name);
+                        met[i]++;
                     }
                 }
             }
             return true;
         }
 
-        /** The HAS of this name with the fewest rows that agree. */
+        /** The HAS of this name with the fewest rows that agree, or NONE. */
         private int narrowest(int name) {
             int narrowest = NONE;
             int fewest = MOST_ROWS + 1;
@@ -1122,9 +1157,9 @@ public final class JoinLoom {
             boolean whole = (part.nameSet & ~seen) == 0;
             switch (part.kind) {
                 case HAS:
-                    return (agreeing[p] & rowsWith[pair(p, name)][spotNow[name]]) != 0;
+                    return (agreeing[p] & rowsWith[pair(p, part.placeOf[name])][spotNow[name]]) != 0;
                 case NOT:
-                    return !whole || (agreeing[p] & rowsWith[pair(p, name)][spotNow[name]]) == 0;
+                    return !whole || (agreeing[p] & rowsWith[pair(p, part.placeOf[name])][spotNow[name]]) == 0;
                 case SAME:
                     return !whole || side(part, 0) == side(part, 1);
                 default:
@@ -1141,7 +1176,7 @@ public final class JoinLoom {
         /** Takes a meeting's values, and each HAS's and NOT's rows that agree with those of the names seen. */
         private void agree(long meeting, int seen) {
             for (int k = 0; k < question.names; k++) {
-                spotNow[k] = (int) (meeting >>> shift(k)) & SPOTS - 1;
+                spotNow[k] = spotIn(meeting, k);
                 valueNow[k] = domain[k][spotNow[k]];
             }
             for (int p = 0; p < question.size; p++) {
@@ -1150,28 +1185,24 @@ public final class JoinLoom {
                 for (int c = 0; part.isFact() && c < part.places; c++) {
                     int k = part.nameAt[c];
                     if (k != NONE && (seen >> k & 1) != 0) {
-                        rows &= rowsWith[pair(p, k)][spotNow[k]];
+                        rows &= rowsWith[pair(p, c)][spotNow[k]];
                     }
                 }
                 agreeing[p] = rows;
             }
         }
 
-        private void tell(Woven woven) {
-            int names = question.names;
-            woven.open(names, question.size, met[names]);
-            for (int i = 0; i < names; i++) {
-                woven.setMet(i, met[i + 1]);
-            }
-            for (int i = 0; i < met[names]; i++) {
-                agree(slots[names][i], (1 << names) - 1);
-                for (int k = 0; k < names; k++) {
-                    woven.answers.set(i, k, valueNow[k]);
-                }
-                for (int p = 0; p < question.size; p++) {
-                    woven.setWitness(i, p, question.parts[p].kind == HAS ? lowestPlace(agreeing[p]) : NONE);
+        /** With values for all names one row of each HAS agrees. */
+        private int witnessesNow() {
+            int places = 0;
+            int shift = 0;
+            for (int p = 0; p < question.size; p++) {
+                if (question.parts[p].kind == HAS) {
+                    places |= lowestPlace(agreeing[p]) << shift;
+                    shift += SPOT_BITS;
                 }
             }
+            return places;
         }
 
         /** Sorts the first ones of a slot, by steps that grow short. */
@@ -1189,12 +1220,8 @@ public final class JoinLoom {
             }
         }
 
-        private static int shift(int k) {
-            return (MOST_NAMES - 1 - k) * BITS;
-        }
-
-        private static int pair(int p, int k) {
-            return p * MOST_NAMES + k;
+        private static int pair(int p, int c) {
+            return p * MOST_COLUMNS + c;
         }
     }
 }
