@@ -1007,7 +1007,7 @@ public final class JoinLoom {
             return rows;
         }
 
-        /** The values that name k can have by the first HAS of it, in their order. */
+        /** The values that the first HAS of name k has for it, in their order. */
         private void gatherDomain(int k) {
             domainSize[k] = 0;
             for (int p = 0; p < question.size; p++) {
@@ -1015,9 +1015,7 @@ public final class JoinLoom {
                 if (part.kind == HAS && part.carries(k)) {
                     Table table = tables[part.table];
                     for (int i = 0; i < table.size; i++) {
-                        if ((fitting[p] >> i & 1) != 0) {
-                            addToDomain(k, table.cell(i, part.placeOf[k]));
-                        }
+                        addToDomain(k, table.cell(i, part.placeOf[k]));
                     }
                     return;
                 }
@@ -1051,7 +1049,7 @@ public final class JoinLoom {
             return low;
         }
 
-        /** Which rows part p has for each value of the name in place c, and which value each row has, NONE if none. */
+        /** Which rows part p has for each value of the name in place c, and each row's spot, NONE if it has none. */
         private void gatherRowsWith(int p, int c) {
             Part part = question.parts[p];
             int k = part.nameAt[c];
@@ -1067,7 +1065,7 @@ public final class JoinLoom {
             for (int i = 0; i < table.size; i++) {
                 int v = table.cell(i, c);
                 int spot = spotFor(k, v);
-                boolean known = (fitting[p] >> i & 1) != 0 && spot < domainSize[k] && domain[k][spot] == v;
+                boolean known = spot < domainSize[k] && domain[k][spot] == v;
                 spots[i] = known ? spot : NONE;
                 if (known) {
                     rows[spot] |= 1L << i;

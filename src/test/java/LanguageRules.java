@@ -26,7 +26,8 @@ public final class LanguageRules {
         "\\b(double|float|volatile|transient|native|var)\\b", "\\[\\] *\\[\\] *\\["
     };
 
-    private static final String LIBRARY = "System.arraycopy Long.bitCount Integer.bitCount Integer.compare Math.max Math.min";
+    private static final String LIBRARY = "System.arraycopy Long.bitCount Integer.bitCount Integer.compare"
+            + " Math.max Math.min";
 
     private static int wrong = 0;
 

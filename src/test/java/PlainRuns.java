@@ -35,7 +35,8 @@ public final class PlainRuns {
         if (got != want) {
             wrong++;
             if (wrong <= 5) {
-                System.out.println("run " + run + ", call " + calls + ": " + call + " answered " + got + ", due is " + want);
+                System.out.println("run " + run + ", call " + calls + ": " + call + " answered " + got
+                        + ", due is " + want);
             }
         }
     }

@@ -527,6 +527,34 @@ public final class PromiseTests {
         met(x, 40, 40, 40, 40, 7, NONE);
     }
 
+    /** Rows of two tables that meet in 22 times 22, 4 times 4 and 1 times 1 ways. */
+    private static void weavingJustTooMany() {
+        promise = 13;
+        JoinLoom x = new JoinLoom();
+        x.table(0, 2);
+        x.table(1, 2);
+        for (int i = 0; i < 26; i++) {
+            due("put", x.put(0, i, i < 22 ? 7 : 8, 0), 1);
+            due("put", x.put(1, i < 22 ? 7 : 8, i, 0), 1);
+        }
+        due("put", x.put(0, 50, 9, 0), 1);
+        x.ask(3);
+        fact(x, 0, 0, 0, 1);
+        fact(x, 0, 1, 1, 2);
+        due("weave with 500 meetings", x.weave(), 500);
+        met(x, 27, 26, 500);
+        due("put", x.put(1, 9, 50, 0), 1);
+        due("weave with 501 meetings", x.weave(), TOO_MANY);
+        due("count(2) as before", x.count(2), 500);
+        x.order(0, 2);
+        due("weave with 501 meetings from the other end", x.weave(), TOO_MANY);
+        promise = 24;
+        due("best with 501 meetings", x.best(), TOO_MANY);
+        x.drop(0, 50, 9, 0);
+        due("best with 500 meetings", x.best(), 2 + 26 + 500);
+        ordered(x, 1, 0, 2);
+    }
+
     private static void answerOrder() {
         promise = 14;
         JoinLoom x = new JoinLoom();
@@ -1044,6 +1072,7 @@ public final class PromiseTests {
         weaving();
         weavingWithOneNameTwice();
         weavingTooMany();
+        weavingJustTooMany();
         answerOrder();
         meetingCounts();
         witnesses();
