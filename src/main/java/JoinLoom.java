@@ -26,15 +26,13 @@ public final class JoinLoom {
     private final Answers kept = new Answers();
     private final Difference difference = new Difference();
     private final RingWalk ringWalk = new RingWalk();
-    private final Cover leastCover;
-    private final Weaver weaver;
+    private final Cover leastCover = new Cover();
+    private final Weaver weaver = new Weaver();
 
     public JoinLoom() {
         for (int t = 0; t < MOST_TABLES; t++) {
             tables[t] = new Table();
         }
-        leastCover = new Cover(tables, question);
-        weaver = new Weaver(tables, question);
     }
 
     public boolean table(int t, int columns) {
@@ -111,8 +109,8 @@ public final class JoinLoom {
         if (!question.stands()) {
             return NONE;
         }
-        weaver.prepare();
-        return weaver.weaveInto(woven) ? woven.answers.size : TOO_MANY;
+        weaver.prepare(tables, question);
+        return weaver.weaveInto(question, woven) ? woven.answers.size : TOO_MANY;
     }
 
     public int answer(int i, int k) {
@@ -179,7 +177,7 @@ public final class JoinLoom {
         if (!question.stands()) {
             return NONE;
         }
-        leastCover.find();
+        leastCover.find(tables, question);
         return leastCover.product;
     }
 
@@ -187,7 +185,7 @@ public final class JoinLoom {
         if (!question.stands()) {
             return NONE;
         }
-        leastCover.find();
+        leastCover.find(tables, question);
         return leastCover.shareOf(p);
     }
 
@@ -195,9 +193,9 @@ public final class JoinLoom {
         if (!question.stands() || question.names > MOST_NAMES_TO_ORDER) {
             return NONE;
         }
-        weaver.prepare();
-        weaver.meetEachSet();
-        return weaver.takeBestOrder();
+        weaver.prepare(tables, question);
+        weaver.meetEachSet(question);
+        return weaver.takeBestOrder(question);
     }
 
     public int rings(int t) {
@@ -770,23 +768,16 @@ public final class JoinLoom {
         private int carrierCount;
         private final int[] carriers = new int[MOST_HAS];
         private final int[] shares = new int[MOST_HAS];
-        private final Table[] tables;
-        private final Question question;
-
-        Cover(Table[] allTables, Question asked) {
-            tables = allTables;
-            question = asked;
-        }
 
         /** Trials go by their shares, part by part, so that the first of the least products has the least shares. */
-        void find() {
-            int trials = gatherCarriers();
+        void find(Table[] tables, Question question) {
+            int trials = gatherCarriers(question);
             int leastTrial = 0;
             product = NONE;
             for (int trial = 0; trial < trials; trial++) {
                 takeTrial(trial);
-                if (coversAllNames()) {
-                    long found = productOfShares();
+                if (coversAllNames(question)) {
+                    long found = productOfShares(tables, question);
                     if (product == NONE || found < product) {
                         product = found;
                         leastTrial = trial;
@@ -806,7 +797,7 @@ public final class JoinLoom {
         }
 
         /** Gathers every HAS that has a name; answers in how many ways shares can be given to them. */
-        private int gatherCarriers() {
+        private int gatherCarriers(Question question) {
             int ways = 1;
             carrierCount = 0;
             for (int p = 0; p < question.size && carrierCount < MOST_HAS; p++) {
@@ -828,7 +819,7 @@ public final class JoinLoom {
             }
         }
 
-        private boolean coversAllNames() {
+        private boolean coversAllNames(Question question) {
             for (int k = 0; k < question.names; k++) {
                 int halves = 0;
                 for (int h = 0; h < carrierCount; h++) {
@@ -843,7 +834,7 @@ public final class JoinLoom {
             return true;
         }
 
-        private long productOfShares() {
+        private long productOfShares(Table[] tables, Question question) {
             long found = 1;
             for (int h = 0; h < carrierCount; h++) {
                 Part part = question.parts[carriers[h]];
@@ -859,8 +850,6 @@ public final class JoinLoom {
     private static final class Weaver {
         private static final int SETS = 1 << MOST_NAMES_TO_ORDER;
 
-        private final Table[] tables;
-        private final Question question;
         private final int[] domainSize = new int[MOST_NAMES];
         private final int[][] domain = new int[MOST_NAMES][SPOTS];
         private final long[] fitting = new long[MOST_PARTS];
@@ -875,36 +864,34 @@ public final class JoinLoom {
         private final int[] lastOf = new int[SETS];
         private final int[] setTurns = new int[MOST_NAMES_TO_ORDER];
 
-        Weaver(Table[] allTables, Question asked) {
-            tables = allTables;
-            question = asked;
-        }
-
         /** Finds what hangs on the tables and parts alone, and whether there is a meeting of no names. */
-        void prepare() {
+        void prepare(Table[] tables, Question question) {
             boolean namelessHold = true;
             for (int p = 0; p < question.size; p++) {
                 Part part = question.parts[p];
-                fitting[p] = fittingRows(part);
+                fitting[p] = part.isFact() ? fittingRows(tables[part.table], part) : 0;
                 if (part.isFact() && part.nameSet == 0) {
                     namelessHold = namelessHold && (fitting[p] != 0) == (part.kind == HAS);
                 }
             }
             for (int k = 0; k < question.names; k++) {
-                gatherDomain(k);
+                gatherDomain(tables, question, k);
             }
             for (int p = 0; p < question.size; p++) {
-                for (int c = 0; question.parts[p].isFact() && c < question.parts[p].places; c++) {
-                    gatherRowsWith(p, c);
+                Part part = question.parts[p];
+                for (int c = 0; part.isFact() && c < part.places; c++) {
+                    if (part.nameAt[c] != NONE) {
+                        gatherRowsWith(tables[part.table], c, part.nameAt[c], pair(p, c));
+                    }
                 }
             }
             met[0] = namelessHold ? 1 : 0;
         }
 
         /** False if there are too many meetings: then what was woven before stays. */
-        boolean weaveInto(Woven woven) {
+        boolean weaveInto(Question question, Woven woven) {
             int names = question.names;
-            if (meetAlong(question.turns, names) == TOO_MANY) {
+            if (meetAlong(question, question.turns, names) == TOO_MANY) {
                 return false;
             }
             long[] found = slots[names & 1];
@@ -915,8 +902,8 @@ public final class JoinLoom {
                 woven.setMet(i, met[i + 1]);
             }
             for (int i = 0; i < met[names]; i++) {
-                agree(found[i], (1 << names) - 1);
-                woven.setWitnesses(i, witnessesNow());
+                agree(question, found[i], (1 << names) - 1);
+                woven.setWitnesses(i, witnessesNow(question));
             }
             return true;
         }
@@ -925,22 +912,22 @@ public final class JoinLoom {
          * How many meetings there are hangs on which names come first, not on their order: each set of names is met
          * once, in some order in which no meetings on the way are too many.
          */
-        void meetEachSet() {
+        void meetEachSet(Question question) {
             int sets = Math.min(SETS, 1 << question.names);
             setMet[0] = met[0];
             for (int set = 1; set < sets; set++) {
-                lastOf[set] = lastNameFor(set);
-                setMet[set] = lastOf[set] == NONE ? TOO_MANY : meetAlong(setTurns, lineUp(set));
+                lastOf[set] = lastNameFor(question, set);
+                setMet[set] = lastOf[set] == NONE ? TOO_MANY : meetAlong(question, setTurns, lineUp(set));
             }
         }
 
         /** How many meetings the best order has, which becomes the question's; TOO_MANY if there is none. */
-        int takeBestOrder() {
+        int takeBestOrder(Question question) {
             int fewest = TOO_MANY;
             int bestCode = 0;
             int codes = 1 << 2 * MOST_NAMES_TO_ORDER;
             for (int code = 0; code < codes; code++) {
-                int together = meetingsTogether(code);
+                int together = meetingsTogether(question, code);
                 if (together != TOO_MANY && (fewest == TOO_MANY || together < fewest)) {
                     fewest = together;
                     bestCode = code;
@@ -952,7 +939,7 @@ public final class JoinLoom {
             return fewest;
         }
 
-        private int meetingsTogether(int code) {
+        private int meetingsTogether(Question question, int code) {
             int together = 0;
             int seen = 0;
             for (int i = 0; i < question.names; i++) {
@@ -973,7 +960,7 @@ public final class JoinLoom {
         }
 
         /** A name of the set without which its meetings are not too many, or NONE. */
-        private int lastNameFor(int set) {
+        private int lastNameFor(Question question, int set) {
             for (int k = 0; k < question.names; k++) {
                 int before = set & ~(1 << k);
                 if (before != set && setMet[before] != TOO_MANY) {
@@ -994,21 +981,18 @@ public final class JoinLoom {
             return howMany;
         }
 
-        private long fittingRows(Part part) {
+        private static long fittingRows(Table table, Part part) {
             long rows = 0;
-            if (part.isFact()) {
-                Table table = tables[part.table];
-                for (int i = 0; i < table.size; i++) {
-                    if (part.fits(table, i)) {
-                        rows |= 1L << i;
-                    }
+            for (int i = 0; i < table.size; i++) {
+                if (part.fits(table, i)) {
+                    rows |= 1L << i;
                 }
             }
             return rows;
         }
 
         /** The values that the first HAS of name k has for it, in their order. */
-        private void gatherDomain(int k) {
+        private void gatherDomain(Table[] tables, Question question, int k) {
             domainSize[k] = 0;
             for (int p = 0; p < question.size; p++) {
                 Part part = question.parts[p];
@@ -1049,19 +1033,13 @@ public final class JoinLoom {
             return low;
         }
 
-        /** Which rows part p has for each value of the name in place c, and each row's spot, NONE if it has none. */
-        private void gatherRowsWith(int p, int c) {
-            Part part = question.parts[p];
-            int k = part.nameAt[c];
-            if (k == NONE) {
-                return;
-            }
-            long[] rows = rowsWith[pair(p, c)];
-            int[] spots = spotOf[pair(p, c)];
+        /** Which rows have each value of name k in column c, and each row's spot, NONE if its value has none. */
+        private void gatherRowsWith(Table table, int c, int k, int pair) {
+            long[] rows = rowsWith[pair];
+            int[] spots = spotOf[pair];
             for (int spot = 0; spot < domainSize[k]; spot++) {
                 rows[spot] = 0;
             }
-            Table table = tables[part.table];
             for (int i = 0; i < table.size; i++) {
                 int v = table.cell(i, c);
                 int spot = spotFor(k, v);
@@ -1074,11 +1052,11 @@ public final class JoinLoom {
         }
 
         /** Meets so many names of an order, one after another; how many meetings the last has, or TOO_MANY. */
-        private int meetAlong(int[] turns, int howMany) {
+        private int meetAlong(Question question, int[] turns, int howMany) {
             int seen = 0;
             slots[0][0] = 0;
             for (int i = 0; i < howMany; i++) {
-                if (!extend(i, seen, turns[i])) {
+                if (!extend(question, i, seen, turns[i])) {
                     return TOO_MANY;
                 }
                 seen |= 1 << turns[i];
@@ -1087,12 +1065,12 @@ public final class JoinLoom {
         }
 
         /** Meets the names seen, i of them, and one more, from one slot into the other; false if it is too many. */
-        private boolean extend(int i, int seen, int name) {
+        private boolean extend(Question question, int i, int seen, int name) {
             met[i + 1] = 0;
             for (int j = 0; j < met[i]; j++) {
                 long meeting = slots[i & 1][j];
-                agree(meeting, seen);
-                if (!extendOne(i + 1, meeting, seen | 1 << name, name)) {
+                agree(question, meeting, seen);
+                if (!extendOne(question, i + 1, meeting, seen | 1 << name, name)) {
                     return false;
                 }
             }
@@ -1100,8 +1078,8 @@ public final class JoinLoom {
         }
 
         /** Tries the values in the HAS that has the fewest rows left; those that another HAS lacks may have no spot. */
-        private boolean extendOne(int i, long meeting, int seen, int name) {
-            int p = narrowest(name);
+        private boolean extendOne(Question question, int i, long meeting, int seen, int name) {
+            int p = narrowest(question, name);
             if (p == NONE) {
                 return true;
             }
@@ -1114,7 +1092,7 @@ public final class JoinLoom {
                     left &= ~rowsWith[pair][spot];
                     spotNow[name] = spot;
                     valueNow[name] = domain[name][spot];
-                    if (meets(seen, name)) {
+                    if (meets(question, seen, name)) {
                         if (met[i] >= MOST_MEETINGS) {
                             return false;
                         }
@@ -1127,7 +1105,7 @@ public final class JoinLoom {
         }
 
         /** The HAS of this name with the fewest rows that agree, or NONE. */
-        private int narrowest(int name) {
+        private int narrowest(Question question, int name) {
             int narrowest = NONE;
             int fewest = MOST_ROWS + 1;
             for (int p = 0; p < question.size; p++) {
@@ -1141,7 +1119,7 @@ public final class JoinLoom {
         }
 
         /** Is each part that has the newest name, and of which enough names are seen, true with the values now? */
-        private boolean meets(int seen, int name) {
+        private boolean meets(Question question, int seen, int name) {
             for (int p = 0; p < question.size; p++) {
                 Part part = question.parts[p];
                 if (part.carries(name) && !holds(p, part, seen, name)) {
@@ -1172,7 +1150,7 @@ public final class JoinLoom {
         }
 
         /** Takes a meeting's values, and each HAS's and NOT's rows that agree with those of the names seen. */
-        private void agree(long meeting, int seen) {
+        private void agree(Question question, long meeting, int seen) {
             for (int k = 0; k < question.names; k++) {
                 spotNow[k] = spotIn(meeting, k);
                 valueNow[k] = domain[k][spotNow[k]];
@@ -1191,7 +1169,7 @@ public final class JoinLoom {
         }
 
         /** With values for all names one row of each HAS agrees. */
-        private int witnessesNow() {
+        private int witnessesNow(Question question) {
             int places = 0;
             int shift = 0;
             for (int p = 0; p < question.size; p++) {
