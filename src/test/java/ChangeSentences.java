@@ -133,7 +133,8 @@ final class ChangeSentences extends Sentences {
     private static void change() {
         String at = "Promise 21";
         test(at, "The VALUE of NAME k in the i-th of these, in the order of ANSWERS;", () -> {
-            Loom x = pairs().woven(4).kept(4).less(0, r(2, 6), r(NO, 8)).more(0, r(NO, NO), r(1, NO), r(1, 6), r(-1, 9));
+            Loom x = pairs().woven(4).kept(4).less(0, r(2, 6), r(NO, 8)).more(0, r(NO, NO), r(1, NO), r(1, 6),
+                    r(-1, 9));
             x.turned(0, 1).woven(6);
             int[][] came = {r(-1, 9), r(1, 6), r(1, NO), r(NO, NO)};
             int[][] went = {r(2, 6), r(NO, 8)};

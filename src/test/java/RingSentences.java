@@ -52,13 +52,15 @@ final class RingSentences extends Sentences {
     private static void ring() {
         String at = "Promise 26";
         test(at, "VALUE k (0 a, 1 b, 2 c) of RING i, by a, then b, then c in their order;", () -> {
-            Loom x = new Loom().with(0, 2, r(2, 9), r(9, 8), r(8, 2), r(1, 5), r(5, 7), r(7, 1), r(1, 4), r(4, 6), r(6, 1));
+            Loom x = new Loom().with(0, 2, r(2, 9), r(9, 8), r(8, 2), r(1, 5), r(5, 7), r(7, 1), r(1, 4), r(4, 6),
+                    r(6, 1));
             ringed(x, 0, r(1, 4, 6), r(1, 5, 7), r(2, 9, 8));
             x.more(0, r(5, 6), r(5, NO), r(NO, 1));
             ringed(x, 0, r(1, 4, 6), r(1, 5, 6), r(1, 5, 7), r(1, 5, NO), r(2, 9, 8));
         });
         test(at, "VALUE k (0 a, 1 b, 2 c) of RING i, by a, then b, then c in their order;", () -> {
-            Loom x = new Loom().with(0, 3, r(1, 3, 0), r(2, 3, 0), r(3, 4, 0), r(3, 4, 1), r(4, 1, 0), r(4, 2, 0), r(4, 2, 5));
+            Loom x = new Loom().with(0, 3, r(1, 3, 0), r(2, 3, 0), r(3, 4, 0), r(3, 4, 1), r(4, 1, 0), r(4, 2, 0),
+                    r(4, 2, 5));
             ringed(x, 0, r(1, 3, 4), r(2, 3, 4));
             x.with(1, 3, r(1, 2, 0), r(2, 4, 0), r(3, 4, 0), r(4, 1, 0));
             ringed(x, 1, r(1, 2, 4));

@@ -305,6 +305,17 @@ final class TermsSentences extends Sentences {
             x.asked(3).has(0, 2, 0, 1).turned(0, 2).woven(5);
             answers(x, r(3, 4, 2), r(3, 4, 3), r(9, 4, 1), r(9, 4, NO), r(9, NO, 2));
         });
+        test(at, "ordered by NAME 0's VALUE, then NAME 1's, and so on.", () -> {
+            Loom x = new Loom().with(0, 3, r(1, 1, 1), r(1, 1, 2), r(1, 2, 1), r(2, 1, 1)).asked(6);
+            x.has(0, 0, 1, 2).has(0, 3, 4, 5).woven(16);
+            int[][] rows = {r(1, 1, 1), r(1, 1, 2), r(1, 2, 1), r(2, 1, 1)};
+            for (int i = 0; i < 16; i++) {
+                for (int k = 0; k < 6; k++) {
+                    int due = k < 3 ? rows[i / 4][k] : rows[i % 4][k - 3];
+                    due("answer(" + i + ", " + k + ")", x.answer(i, k), due);
+                }
+            }
+        });
         test(at, "THE ORDER is a row of all NAMES.", () -> {
             Loom x = new Loom().asked(6);
             x.turned(0, 5).turned(1, 5).turned(4, 0).turned(3, 3).turned(5, 5).turned(2, 1);
@@ -332,7 +343,8 @@ final class TermsSentences extends Sentences {
             met(x, 2, 0);
         });
         test(at, "for each HAS that has one of these NAMES", () -> {
-            Loom x = new Loom().with(0, 1, r(2), r(9)).with(1, 2, r(2, 5), r(3, 5), r(8, 6)).with(2, 1, r(5), r(6), r(7));
+            Loom x = new Loom().with(0, 1, r(2), r(9)).with(1, 2, r(2, 5), r(3, 5), r(8, 6)).with(2, 1, r(5), r(6),
+                    r(7));
             x.asked(2).has(0, 0).has(1, 0, 1).has(2, 1).woven(1);
             met(x, 1, 1);
             x.turned(0, 1).woven(1);

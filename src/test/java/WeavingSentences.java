@@ -230,6 +230,14 @@ final class WeavingSentences extends Sentences {
             due("witness when the table is another", x.witness(3, 0), 1);
         });
         test(at, words, () -> {
+            Loom x = new Loom().numbers(0, 40).asked(5).has(0, 4).has(0, 3).has(0, 2).has(0, 1).has(0, 0);
+            x.sameAs(4, 39).sameAs(3, 31).sameAs(2, 16).sameAs(1, 32).sameAs(0, 39).woven(1);
+            int[] places = {39, 31, 16, 32, 39};
+            for (int p = 0; p < 5; p++) {
+                due("witness(0, " + p + ")", x.witness(0, p), places[p]);
+            }
+        });
+        test(at, words, () -> {
             Loom x = new Loom().numbers(0, 40).asked(2).has(0, 0).has(0, 1).same(0, 1).woven(40);
             for (int i = 0; i < 40; i++) {
                 due("witness(" + i + ", 1)", x.witness(i, 1), i);
