@@ -12,6 +12,7 @@ public final class JoinLoom {
     private static final int MOST_HAS = 5;
     private static final int MOST_MEETINGS = 500;
     private static final int MOST_NAMES_TO_ORDER = 4;
+    private static final int ABOVE_ALL_RINGS = MOST_ROWS * MOST_ROWS;
     private static final int SPOT_BITS = 6;
     private static final int SPOTS = 1 << SPOT_BITS;
 
@@ -203,7 +204,7 @@ public final class JoinLoom {
         if (table == null || table.columns < 2) {
             return NONE;
         }
-        return ringWalk.walk(table, Integer.MAX_VALUE);
+        return ringWalk.walk(table, ABOVE_ALL_RINGS);
     }
 
     public int ring(int t, int i, int k) {
@@ -1056,29 +1057,24 @@ public final class JoinLoom {
             int seen = 0;
             slots[0][0] = 0;
             for (int i = 0; i < howMany; i++) {
-                if (!extend(question, i, seen, turns[i])) {
-                    return TOO_MANY;
+                met[i + 1] = 0;
+                for (int j = 0; j < met[i]; j++) {
+                    long meeting = slots[i & 1][j];
+                    agree(question, meeting, seen);
+                    if (!extend(question, i + 1, meeting, seen | 1 << turns[i], turns[i])) {
+                        return TOO_MANY;
+                    }
                 }
                 seen |= 1 << turns[i];
             }
             return met[howMany];
         }
 
-        /** Meets the names seen, i of them, and one more, from one slot into the other; false if it is too many. */
-        private boolean extend(Question question, int i, int seen, int name) {
-            met[i + 1] = 0;
-            for (int j = 0; j < met[i]; j++) {
-                long meeting = slots[i & 1][j];
-                agree(question, meeting, seen);
-                if (!extendOne(question, i + 1, meeting, seen | 1 << name, name)) {
-                    return false;
-                }
-            }
-            return true;
-        }
-
-        /** Tries the values in the HAS that has the fewest rows left; those that another HAS lacks may have no spot. */
-        private boolean extendOne(Question question, int i, long meeting, int seen, int name) {
+        /**
+         * Gives a meeting's newest name the values in the HAS that has the fewest rows left; those that another HAS
+         * lacks may have no spot. False if the meetings are too many.
+         */
+        private boolean extend(Question question, int i, long meeting, int seen, int name) {
             int p = narrowest(question, name);
             if (p == NONE) {
                 return true;
