@@ -37,6 +37,25 @@ final class RingSentences extends Sentences {
             due("the last ring's c", x.ring(0, 39, 2), 4);
             due("behind the last", x.ring(0, 40, 0), 0);
         });
+        test(at, "How many RINGS TABLE t has;", () -> {
+            Loom x = new Loom().with(0, 2);
+            for (int a = 0; a < 7; a++) {
+                for (int b = 0; b < 7; b++) {
+                    if (a != b && !(a == 0 && b == 1) && !(a == 1 && b == 2)) {
+                        x.more(0, r(a, b));
+                    }
+                }
+            }
+            due("rows", x.rows(0), 40);
+            due("more rings than rows", x.rings(0), 61);
+            int[] first = {0, 2, 1};
+            int[] last = {4, 6, 5};
+            for (int k = 0; k < 3; k++) {
+                due("ring(0, 0, " + k + ")", x.ring(0, 0, k), first[k]);
+                due("ring(0, 60, " + k + ")", x.ring(0, 60, k), last[k]);
+                due("ring(0, 61, " + k + ")", x.ring(0, 61, k), 0);
+            }
+        });
         test(at, "NONE: there is no such TABLE of two or three COLUMNS.", () -> {
             Loom x = new Loom().numbers(0, 3).with(1, 2).with(7, 3);
             for (int t : new int[] {-1, 0, 2, 6, 8, NO, MAX}) {
